@@ -1029,6 +1029,11 @@ public final class EachBookOnce {
         int sumOfRun(Town town, int kind, int amount, int n) {
             int sum = 0;
             for (int i = 0; i < n; i++) {
+                // All are gone within ten years: the years behind that are worth nothing and change nothing.
+                if (town.setThere() == 0) {
+                    lastValue = 0;
+                    break;
+                }
                 Rules.act(town, kind, amount);
                 lastValue = town.worthNow();
                 sum += lastValue;
@@ -1040,7 +1045,7 @@ public final class EachBookOnce {
         /** The sum of years in which nothing is done. */
         static int sumOfRest(Town town, int n) {
             int sum = 0;
-            for (int i = 0; i < n; i++) {
+            for (int i = 0; i < n && town.setThere() != 0; i++) {
                 sum += town.worthNow();
                 town.endYear();
             }
