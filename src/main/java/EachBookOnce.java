@@ -362,8 +362,7 @@ public final class EachBookOnce {
         if (has(town.gone, one) || unread > MOST_ORDERED) {
             return refuse(STUCK);
         }
-        plans.findOrder(town, one);
-        return within(what, 0, MOST - 1) ? plans.bestRow[what] : plans.bestSum;
+        return what == NONE ? plans.worthByRising(town, one) : town.unreadAt(what);
     }
 
     public int keeping(int book, int n) {
@@ -425,10 +424,9 @@ public final class EachBookOnce {
         int there = town.setThere();
         int wanted = town.booksKnown(there, v);
         int best = there;
-        for (int some = 0; some <= there; some++) {
+        for (int some = 0; some < there; some++) {
             boolean isFewer = Integer.bitCount(some) < Integer.bitCount(best);
-            boolean isSmaller = Integer.bitCount(some) == Integer.bitCount(best) && some < best;
-            if ((some & ~there) == 0 && (isFewer || isSmaller) && town.booksKnown(some, v) == wanted) {
+            if ((some & ~there) == 0 && isFewer && town.booksKnown(some, v) == wanted) {
                 best = some;
             }
         }
@@ -794,6 +792,7 @@ public final class EachBookOnce {
             return bits;
         }
 
+        // Calls nothing, as it stands at the end of the deepest row of calls.
         int groundOf(int p, int b) {
             int least = WHOLE;
             for (int i = 0; i < b; i++) {
@@ -877,6 +876,20 @@ public final class EachBookOnce {
                 }
             }
             return best;
+        }
+
+        /** By rising numbers; NONE if there are fewer. */
+        int unreadAt(int place) {
+            int passed = 0;
+            for (int b = 0; b < books; b++) {
+                if (!has(white, b)) {
+                    if (passed == place) {
+                        return b;
+                    }
+                    passed++;
+                }
+            }
+            return NONE;
         }
 
         int youngestBut(int one) {
@@ -1016,8 +1029,6 @@ public final class EachBookOnce {
     private static final class Plans {
         private final Town trial = new Town();
         private final Town second = new Town();
-        private final int[] row = new int[MOST];
-        private final int[] bestRow = new int[MOST];
         private int lastValue;
         private int bestSum;
 
@@ -1046,7 +1057,7 @@ public final class EachBookOnce {
         static int sumOfRest(Town town, int n) {
             int sum = 0;
             for (int i = 0; i < n && town.setThere() != 0; i++) {
-                sum += town.worthNow();
+                sum += town.worthAmong(town.setThere());
                 town.endYear();
             }
             return sum;
@@ -1084,65 +1095,16 @@ public final class EachBookOnce {
             return true;
         }
 
-        /** Leaves the best row in bestRow, and what one knows by it in bestSum. */
-        void findOrder(Town from, int one) {
-            int size = firstRow(from);
-            bestSum = NONE;
-            for (int round = 0; round < 120; round++) {
-                int sum = worthByRow(from, one, size);
-                if (sum > bestSum) {
-                    bestSum = sum;
-                    System.arraycopy(row, 0, bestRow, 0, size);
-                }
-                if (!nextRow(size)) {
-                    break;
-                }
-            }
-        }
-
-        private int firstRow(Town from) {
-            int size = 0;
-            for (int b = 0; b < from.books; b++) {
-                if (!has(from.white, b)) {
-                    row[size] = b;
-                    size++;
-                }
-            }
-            return size;
-        }
-
-        private int worthByRow(Town from, int one, int size) {
+        // Readings never lessen what is known, and a book needs lesser numbers only: read by rising numbers each
+        // book meets the best ground it can, so no row is better than that first one.
+        int worthByRising(Town from, int one) {
             trial.become(from);
-            for (int i = 0; i < size; i++) {
-                trial.readBy(one, row[i]);
+            for (int b = 0; b < trial.books; b++) {
+                if (!has(trial.white, b)) {
+                    trial.readBy(one, b);
+                }
             }
             return trial.worthAmong(1 << one);
-        }
-
-        // Rows come by rising order, so that of several as good the first is met first.
-        private boolean nextRow(int size) {
-            int i = size - 2;
-            while (i >= 0 && row[i] > row[i + 1]) {
-                i--;
-            }
-            if (i < 0) {
-                return false;
-            }
-            int j = size - 1;
-            while (j > i && row[j] < row[i]) {
-                j--;
-            }
-            swap(i, j);
-            for (int l = i + 1, r = size - 1; l < r; l++, r--) {
-                swap(l, r);
-            }
-            return true;
-        }
-
-        private void swap(int i, int j) {
-            int book = row[i];
-            row[i] = row[j];
-            row[j] = book;
         }
     }
 

@@ -50,6 +50,28 @@ public final class BestTest {
         C.refused(x, Check.BAD, "run(0, 1, 4)", () -> x.run(0, 1, 4));
         C.refused(x, Check.BAD, "run(6, 1, 4): BAD ahead of OTHER", () -> x.run(6, 1, 4));
         chains();
+        loudAndSage();
+    }
+
+    private static void loudAndSage() {
+        // Read by 0 alone it is gone with them; ALOUD 1 knows half of it a year later (and keeps it).
+        EachBookOnce x = ruled("book 2;book 3;one 9 reads 10 keeps 10;one 0 reads 0 keeps 10 tells 10");
+        C.due("NOW, two years", x.run(0, 2, 0), 5000);
+        C.due("FEW, two years", x.run(1, 2, 0), 3000);
+        C.due("LOUD, two years", x.run(2, 2, 0), 5000 + 2500);
+        C.due("SAGE reads behind its chain, so nothing is told", x.run(5, 2, 0), 3000);
+        EachBookOnce y = ruled("book 2;one 9 reads 10 keeps 10 tells 10;one 0 reads 0 keeps 10;knows 0 0 400");
+        C.due("SAGE tells what was known ahead", y.run(5, 2, 0), 2000 + 800);
+        C.due("NOW tells nothing", y.run(0, 2, 0), 2000);
+        // Of two books of the same WORTH the first is read first.
+        EachBookOnce z = ruled("book 3;book 7;book 7;one 1 reads 10");
+        z.years(1, 1);
+        C.due("FEW reads the first of the dearest", z.bookOf(0, 3) * 4 + z.bookOf(1, 3) * 2 + z.bookOf(2, 3), 2);
+        z.years(1, 1);
+        C.due("then the second of them", z.bookOf(0, 3) * 4 + z.bookOf(1, 3) * 2 + z.bookOf(2, 3), 3);
+        EachBookOnce all = ruled("book 1;book 1;book 1;book 1;book 1;book 1;book 1;book 1;one 3");
+        C.due("NOW reads eight", all.says(0, 1), 8);
+        C.due("eight WHITE", all.run(0, 1, 2), 8);
     }
 
     private static void chains() {
@@ -160,6 +182,11 @@ public final class BestTest {
         C.refused(x, Check.STUCK, "order(0, NONE) of six", () -> x.order(0, -1));
         x.read(0, 5);
         C.due("order(0, NONE), one of them WHITE", x.order(0, -1), 24000);
+        // A ground that is known ahead is as good as one that is read: still the first row.
+        EachBookOnce y = Check.of("book 5 good 100;book 4;book 9;need 1 0;need 2 0;one 1 reads 10;knows 0 0 600;knows 0 2 700;white 1");
+        C.due("order(0, NONE): 600 of 0, 800 of 2", y.order(0, -1), 3000 + 7200);
+        C.due("order(0, 0)", y.order(0, 0), 0);
+        C.due("order(0, 1)", y.order(0, 1), 2);
     }
 
     private static void promise31Keeping() {

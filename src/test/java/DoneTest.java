@@ -92,6 +92,13 @@ public final class DoneTest {
         EachBookOnce y = Check.of("book 9;one 1 reads 1;one 2;knows 0 0 900");
         C.due("half of what the reader knows, not of what they read", y.aloud(0, 0, 3), 1);
         C.due("known(1, 0)", y.known(1, 0), 450);
+        EachBookOnce z = Check.of("book 9;book 9;one 1;one 2 reads 10;knows 0 1 500");
+        C.due("the first hears too", z.aloud(1, 0, 1), 1);
+        C.due("known(0, 0)", z.known(0, 0), 500);
+        C.due("as much as was known is no more", z.aloud(1, 1, 1), 0);
+        EachBookOnce g = Check.of("book 1;book 1;need 1 0;one 1;one 1;one 1 reads 10;knows 1 0 800;knows 2 0 600");
+        C.due("ground(1, 1)", g.ground(1, 1), 800);
+        C.due("ground(2, 1)", g.ground(2, 1), 600);
     }
 
     private static void promise23Tell() {

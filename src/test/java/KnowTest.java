@@ -79,6 +79,11 @@ public final class KnowTest {
         x.alter(3, 0, 400);
         C.due("teach(0, 0): nobody would know more", x.teach(0, 0), -1);
         C.due("teach(0, 1): nothing to tell", x.teach(0, 1), -1);
+        x.alter(3, 1, 600);
+        C.due("teach(3, 1): 0 is the first", x.teach(3, 1), 0);
+        x.alter(0, 1, 299);
+        x.alter(2, 1, 300);
+        C.due("teach(3, 1): 1 more is enough", x.teach(3, 1), 0);
         C.refused(x, Check.BAD, "teach(-1, 0)", () -> x.teach(-1, 0));
         C.refused(x, Check.BAD, "teach(4, 0)", () -> x.teach(4, 0));
         C.refused(x, Check.BAD, "teach(1, -1)", () -> x.teach(1, -1));

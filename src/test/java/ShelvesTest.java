@@ -79,6 +79,10 @@ public final class ShelvesTest {
         for (int i = 0; i < 5; i++) {
             C.due("element(0, " + i + ") moved down", x.element(0, i), Math.min(4, i + 1));
         }
+        Check.row(x, 5, 2, 70, 71, 72);
+        C.due("copy(5, 0, 1, 3, 2)", x.copy(5, 0, 1, 3, 2), 2);
+        C.due("element(0, 3)", x.element(0, 3), 71);
+        C.due("element(0, 4)", x.element(0, 4), 72);
         C.due("copy of none at the ends", x.copy(0, 1, 5, 3, 0), 0);
         x.row(2, 3, 5);
         x.rule(3, 2, 1);

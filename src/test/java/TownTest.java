@@ -54,7 +54,10 @@ public final class TownTest {
         Check.row(x, 0, 3, 9, 10, 1, 2, 0, 3, 4, 5, 6, 7, 8, 11, 1, 1, 1, 1);
         C.due("ones(0, 0)", x.ones(0, 0), 0);
         C.due("ones(0, 4)", x.ones(0, 4), 1);
-        C.due("TELLS of 0", x.oneOf(0, 3), 2);
+        int[] due = {9, 10, 1, 2};
+        for (int what = 0; what < 4; what++) {
+            C.due("oneOf(0, " + what + ")", x.oneOf(0, what), due[what]);
+        }
         C.due("ones(0, 16) until one that can't be", x.ones(0, 16), 2);
         C.due("status(2)", x.status(2), 3);
         C.due("AGE of 2", x.oneOf(2, 0), 0);
@@ -140,6 +143,9 @@ public final class TownTest {
         C.due("more comes to what there is", Check.town(x, "need 1 0;book 5;need 3 2;knows 0 3 1"), 4);
         C.due("NEEDS of 1", x.bookOf(1, 1), 1);
         C.due("KNOWN of the new book", x.known(0, 3), 1);
+        C.due("the least and the most", Check.town(x, "one 0 reads 0 keeps 0 tells 0;one 9 reads 10 keeps 10 tells 10;knows 1 2 0"), 3);
+        C.due("TELLS 0", x.oneOf(4, 3), 0);
+        C.due("KNOWN 0", x.known(1, 2), 0);
         faultsOfForm();
         faultsOfNumbers();
         faultsOfRoom();
@@ -161,6 +167,14 @@ public final class TownTest {
         fault("book 5 reads 5", 7);
         fault("books 5", 0);
         fault("boo 5", 0);
+        fault("hook 5", 0);
+        fault("bookz 5", 0);
+        fault("book 5z", 6);
+        fault("book 5{", 6);
+        fault("book 5`", 6);
+        fault("book 5:", 6);
+        fault("book 5/", 6);
+        fault("one 5;z", 6);
         fault("5", 0);
         fault("book;", 4);
         fault("Book 5", 0);

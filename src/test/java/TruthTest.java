@@ -22,6 +22,14 @@ public final class TruthTest {
         }
         x.set(0, 1, 201);
         C.same("the town behind judge()", Check.picture(x), before);
+        EachBookOnce full = Check.of("book 1;book 1;book 1;book 1;book 1;book 1;book 1;book 1;one 1;one 1;one 1;one 1;one 1;one 1;one 1;one 1");
+        Check.row(full, 0, 1, 707, 0, 706, 1, 605, 800, 708);
+        C.due("judge of the last one and book", full.judge(0, 5), -1);
+        C.due("judge of one 8", full.judge(0, 6), 5);
+        full.set(0, 5, 708);
+        C.due("judge of book 8", full.judge(0, 7), 5);
+        Check.row(full, 0, 1, 99, 0);
+        C.due("judge of book 99", full.judge(0, 2), 0);
         x.read(0, 1);
         C.due("judge(0, 2): WHITE ahead", x.judge(0, 2), 1);
         Check.row(x, 1, 4, 1);
