@@ -285,6 +285,8 @@ public final class BestTest {
         C.due("next() where 1 more is", y.next(), 1);
         y.alter(0, 0, 499);
         C.due("next() of several the first", y.next(), 0);
+        EachBookOnce z = Check.of("book 1;one 1 reads 10;knows 0 0 999");
+        C.due("next() by 1 more of WORTH 1", z.next(), 0);
         C.due("next() with nobody", Check.of("book 5").next(), -1);
         C.due("next() refuses nothing", y.status(12) + y.status(15), 0);
     }
