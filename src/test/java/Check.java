@@ -93,6 +93,23 @@ final class Check {
         return x.town();
     }
 
+    /** A SEED whose draws below 20 are below these, or, for those told below 0, are 1 at least. */
+    static int seedBy(int... below) {
+        for (int seed = 0; seed < 100000; seed++) {
+            int next = seed;
+            boolean fits = true;
+            for (int b : below) {
+                next = next * 1103515245 + 12345;
+                int draw = (next >>> 16) % 20;
+                fits = fits && (b < 0 ? draw >= 1 : draw < b);
+            }
+            if (fits) {
+                return seed;
+            }
+        }
+        throw new IllegalStateException("no such seed");
+    }
+
     static EachBookOnce of(String text) {
         EachBookOnce x = new EachBookOnce();
         int count = town(x, text);

@@ -33,7 +33,7 @@ public final class KnowTest {
         EachBookOnce z = Check.of("book 1;book 1;one 9 keeps 10;one 0 keeps 10;one 0 keeps 10;knows 0 0 500;knows 0 1 500;knows 1 0 500;knows 2 1 500");
         C.due("bear(500): 0", z.bear(500), 1);
         z.rule(0, 4, 0);
-        z.seed(seedForFirst());
+        z.seed(Check.seedBy(9));
         // The chain: 0 tells 1, 1 tells 2, so that both would know both; they are altered back.
         z.years(0, 1);
         C.due("0 is GONE and KNOWS", z.oneOf(0, 4) * 1000 + z.known(0, 0), 1500);
@@ -42,15 +42,6 @@ public final class KnowTest {
         z.alter(1, 0, 500);
         z.alter(2, 1, 500);
         C.due("bear(500) of those there", z.bear(500), 6);
-    }
-
-    private static int seedForFirst() {
-        for (int seed = 0; seed < 10000; seed++) {
-            if (((seed * 1103515245 + 12345) >>> 16) % 20 < 9) {
-                return seed;
-            }
-        }
-        throw new IllegalStateException();
     }
 
     private static void promise37Youngest() {

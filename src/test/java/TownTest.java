@@ -236,6 +236,12 @@ public final class TownTest {
         C.refused(x, Check.BAD, "bookOf(2, 0)", () -> x.bookOf(2, 0));
         C.refused(x, Check.BAD, "bookOf(0, -1)", () -> x.bookOf(0, -1));
         C.refused(x, Check.BAD, "bookOf(0, 5)", () -> x.bookOf(0, 5));
+        EachBookOnce y = Check.of("book 5;one 9;one 0 keeps 10 tells 0;knows 0 0 800;knows 1 0 300");
+        y.rule(0, 2, 0);
+        y.seed(Check.seedBy(9));
+        y.years(0, 1);
+        C.due("0 is GONE by a DRAW and KNOWS", y.oneOf(0, 4) * 1000 + y.known(0, 0), 1800);
+        C.due("the greatest KNOWN of all PEOPLE", y.bookOf(0, 4), 800);
         C.due("the greatest KNOWN without people", Check.of("book 1").bookOf(0, 4), 0);
     }
 
