@@ -15,6 +15,7 @@ public final class EdgesTest {
         BestEdges.all(e);
         KnowEdges.all(e);
         TruthEdges.all(e);
+        FullEdges.all(e);
         e.end();
     }
 }

@@ -9,10 +9,13 @@ import java.util.Random;
 public final class ModelTest {
     private static final int RUNS = 3000;
     private static final int CALLS = 512;
+    // 250 bytes in fours, a wipe() ahead and a town() behind.
+    private static final int MOST_OF_A_TEXT = 65;
 
     private final Random random;
     private final EachBookOnce x = new EachBookOnce();
     private final Model model = new Model();
+    private int calls;
 
     private ModelTest(long seed) {
         random = new Random(seed);
@@ -54,12 +57,21 @@ public final class ModelTest {
         return all[random.nextInt(all.length)];
     }
 
+    // Asked of the model, since a question to the object would be one of its 512 calls.
+    private int people() {
+        return model.w.people.size();
+    }
+
+    private int books() {
+        return model.w.books.size();
+    }
+
     private int person() {
-        return small(0, Math.max(0, x.status(2) - 1));
+        return small(0, Math.max(0, people() - 1));
     }
 
     private int book() {
-        return small(0, Math.max(0, x.status(0) - 1));
+        return small(0, Math.max(0, books() - 1));
     }
 
     private int[] plainArguments(String name) {
@@ -71,14 +83,14 @@ public final class ModelTest {
             case "holds": return new int[] {small(0, 7)};
             case "rule": return new int[] {small(0, 7), small(1, 6), random.nextBoolean() ? small(0, 4) : small(0, 99)};
             case "says": return new int[] {small(0, 7), small(0, 6)};
-            case "book": return new int[] {small(1, 99), random.nextInt(256) & (1 << x.status(0)) - 1};
+            case "book": return new int[] {small(1, 99), random.nextInt(256) & (1 << books()) - 1};
             case "one": return new int[] {small(0, 9), small(0, 10), small(0, 10), small(0, 10)};
             case "ones": return new int[] {small(0, 7), 4 * small(0, 5)};
             case "feed": return new int[] {random.nextInt(), small(1, 4)};
             case "bookOf": return new int[] {book(), small(0, 4)};
             case "oneOf": return new int[] {person(), small(0, 4)};
             case "alter": return new int[] {person(), book(), small(0, 1000)};
-            case "aloud": return new int[] {person(), book(), random.nextInt(256) & (1 << x.status(2)) - 1};
+            case "aloud": return new int[] {person(), book(), random.nextInt(256) & (1 << people()) - 1};
             case "tell": return new int[] {person(), person(), book()};
             case "reader": return new int[] {book()};
             case "run": return new int[] {small(0, 7), small(1, 20), small(0, 3)};
@@ -120,8 +132,8 @@ public final class ModelTest {
     private String randomText() {
         StringBuilder text = new StringBuilder();
         int count = small(1, 9);
-        int books = x.status(0);
-        int people = x.status(2);
+        int books = books();
+        int people = people();
         for (int i = 0; i < count; i++) {
             text.append(i == 0 ? "" : random.nextInt(40) == 0 ? " " : random.nextBoolean() ? ";" : " ; ");
             switch (books == 0 ? 0 : people == 0 ? 2 : random.nextInt(6)) {
@@ -162,6 +174,7 @@ public final class ModelTest {
         int below = m.getName().equals("keeping") || m.getName().equals("gains") ? 1000000 : 0;
         long want = model.answer(() -> invoke(own, model, all), below);
         long got = invoke(m, x, all);
+        calls++;
         return sameBehind(m.getName() + Arrays.toString(all), got, want, seed, place);
     }
 
@@ -188,16 +201,25 @@ public final class ModelTest {
         String text = randomText();
         x.wipe();
         model.wipe();
-        for (int i = 0; i < text.length(); i++) {
-            x.feed(text.charAt(i), 1);
-            model.feed(text.charAt(i), 1);
+        for (int i = 0; i < text.length(); i += 4) {
+            int n = Math.min(4, text.length() - i);
+            int v = random.nextInt();
+            for (int j = i; j < i + n; j++) {
+                v = v << 8 | text.charAt(j);
+            }
+            x.feed(v, n);
+            model.feed(v, n);
+            calls++;
         }
+        calls += 2;
         return sameBehind("town() of " + text, x.town(), model.town(), seed, place);
     }
 
     private boolean run(long seed) throws ReflectiveOperationException {
-        for (int i = 0; i < CALLS; i++) {
-            boolean isSame = i == 0 || random.nextInt(60) == 0 ? textCall(seed, i) : call(seed, i);
+        while (calls < CALLS) {
+            int place = calls;
+            boolean hasRoom = calls < CALLS - MOST_OF_A_TEXT;
+            boolean isSame = calls == 0 || hasRoom && random.nextInt(60) == 0 ? textCall(seed, place) : call(seed, place);
             if (!isSame) {
                 return false;
             }
